@@ -113,7 +113,7 @@ public final class FirstSigns {
         }
         norms.find(table);
         int set = norms.firstsWithin(row);
-        // A round that adds no SIGN is the last that can, so there are never more than SIGNS.
+        // A round that changes the set adds a SIGN to it, so SIGNS rounds are enough.
         for (int round = 0; round < SIGNS; round++) {
             set |= firstsOfRules(set);
         }
@@ -145,7 +145,8 @@ public final class FirstSigns {
             return OUTSIDE;
         }
         forms.find(table);
-        reduceInto(one, row);
+        one.clear();
+        forms.putAhead(one, row);
         return k == -1 ? one.size() : one.fromFirst(k);
     }
 
@@ -304,15 +305,12 @@ public final class FirstSigns {
         return found;
     }
 
-    private void reduceInto(Row whole, int row) {
-        whole.clear();
-        forms.putAhead(whole, row);
-    }
-
     private void reduceBoth(int row, int other) {
         forms.find(table);
-        reduceInto(one, row);
-        reduceInto(two, other);
+        one.clear();
+        forms.putAhead(one, row);
+        two.clear();
+        forms.putAhead(two, other);
     }
 
     private int brokenClaims() {
@@ -352,8 +350,10 @@ public final class FirstSigns {
         if (ofSign == NONE || ofClaimed == NONE) {
             return ofSign != ofClaimed;
         }
-        reduceInto(one, ofSign);
-        reduceInto(two, claim % unit);
+        one.clear();
+        forms.putAhead(one, ofSign);
+        two.clear();
+        forms.putAhead(two, claim % unit);
         forms.putAhead(two, ofClaimed);
         return !one.isSame(two);
     }
@@ -545,7 +545,8 @@ public final class FirstSigns {
 
     /** A ROW as it READS LETTERS one by one. */
     private static final class Reader {
-        private final Row left = new Row(LONGEST_ROW + LONGEST_WORD * (LONGEST_PLACE - 1));
+        final Row left = new Row(LONGEST_ROW + LONGEST_WORD * (LONGEST_PLACE - 1));
+
         private final Row ahead = new Row(LONGEST_WORD);
 
         void start(int row) {
@@ -705,7 +706,7 @@ public final class FirstSigns {
     /** Each SIGN REDUCED. */
     private static final class Forms {
         /** Each of the five SIGNS above the least may make the form three times as long. */
-        private static final int LONGEST = 243;
+        static final int LONGEST = 243;
 
         private final Row[] ofSign = new Row[SIGNS];
 
