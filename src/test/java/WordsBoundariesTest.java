@@ -393,6 +393,18 @@ public final class WordsBoundariesTest {
     }
 
     @Says("a ROW (9 SIGNS at most) has.")
+    static void promise07OfEachSignAndByEachLetter() {
+        for (int s = 0; s < 6; s++) {
+            for (int letter = 0; letter < 3; letter++) {
+                FirstSigns x = new FirstSigns();
+                x.rule(s, letter, 0);
+                due("of SIGN " + s + " by " + letter, x.words(s + 1, 1), 1);
+                due("of nine of SIGN " + s, x.words((s + 1) * 111111111, 9), 1);
+            }
+        }
+    }
+
+    @Says("a ROW (9 SIGNS at most) has.")
     static void promise07AsManyAsCanBe() {
         due("all of nine LETTERS", byAllLetters(0).words(111111111, 9), 19683);
         due("none of eight", byAllLetters(0).words(111111111, 8), 0);
