@@ -47,11 +47,11 @@ public final class ChangesBoundariesTest {
     @Says("An object is used for at most 512 calls after it has been made;")
     static void whatItIsThe512thCallIsAnswered() {
         FirstSigns x = new FirstSigns();
-        for (int n = 1; n <= 511; n++) {
+        for (int n = 1; n <= 510; n++) {
             x.rule(5, 2, n % 6 + 1);
         }
-        due("512 calls, undo", x.undo(KEPT), 0);
-        due("what it was", x.ofRule(5, 2), (511 - KEPT) % 6 + 1);
+        due("511 calls, undo", x.undo(KEPT), 0);
+        due("512 calls, what it was", x.ofRule(5, 2), (510 - KEPT) % 6 + 1);
         FirstSigns y = new FirstSigns();
         for (int n = 1; n <= 511; n++) {
             due("call " + n, y.might(5, 154), 555);
