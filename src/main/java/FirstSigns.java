@@ -529,17 +529,22 @@ public final class FirstSigns {
         }
 
         void keep(Table table) {
-            ahead[next].copyFrom(table);
-            next = (next + 1) % CHANGES_KEPT;
+            ahead[place(0)].copyFrom(table);
+            next = place(1);
             kept = Math.min(kept + 1, CHANGES_KEPT);
         }
 
         void bringBack(Table table, int changes) {
             if (changes > 0 && changes <= kept) {
-                next = (next + CHANGES_KEPT - changes) % CHANGES_KEPT;
+                next = place(-changes);
                 kept -= changes;
-                table.copyFrom(ahead[next]);
+                table.copyFrom(ahead[place(0)]);
             }
+        }
+
+        /** So many steps on from the next place, never out of the ring. */
+        private int place(int steps) {
+            return Math.floorMod(next + steps, CHANGES_KEPT);
         }
     }
 
